@@ -34,13 +34,15 @@ final class Edges {
                 failed += passes(method) ? 0 : 1;
             }
         }
+        StringBuilder told = new StringBuilder();
         for (int promise = from; promise <= to; promise++) {
+            told.append(promise == from ? "" : ", ").append(promise).append(": ").append(testsOf[promise]);
             if (testsOf[promise] == 0) {
                 failed++;
-                System.out.println("promise " + promise + " has no test");
+                System.out.println("FAILED promise " + promise + " has no test");
             }
         }
-        System.out.println(tests.getName() + ": " + ran + " tests, " + failed + " failed");
+        System.out.println(tests.getName() + ": " + ran + " tests (by promise " + told + "), " + failed + " failed");
         if (failed != 0) {
             System.exit(1);
         }

@@ -329,6 +329,13 @@ public final class Edges12To18Test {
         due(0b1110, x.space(0, 1, 1));
     }
 
+    /** "REACHED by n", though n is far off and s is nearer to x over the LINK. */
+    static void promise14_reachedByOneFarOff() {
+        RerouteHouse x = Edges.net(4, 0, 1, 1, 1, 2, 2, 0, 3, 10, 3, 2, 8);
+        due(0b1000, x.space(0, 1, 0));
+        due(0b1110, x.space(0, 1, 1));
+    }
+
     /** "REACH: what is REACHED of s, or by any". */
     static void promise14_reachIsOfItselfOrByAny() {
         RerouteHouse x = Edges.ring(6, 2);

@@ -568,6 +568,14 @@ public final class Edges19To28Test {
         due(2, Edges.net(6, 0, 1, 1, 2, 1, 1, 2, 5, 1, 0, 3, 1, 3, 2, 1, 1, 4, 1, 4, 5, 1).cut(5, 0));
     }
 
+    /** A LINK that one way takes, a second one gives back and a third one takes again. */
+    static void promise25_thereAndBackAndThere() {
+        int[] links = {4, 6, 1, 3, 5, 1, 9, 1, 1, 0, 8, 1, 6, 7, 1, 4, 5, 1, 8, 3, 1, 1, 5, 1, 1, 6, 1, 1, 0, 1, 3, 9, 1, 5, 7, 1, 6, 2, 1};
+        // 6-1-9-3, 6-7-5-3, 6-4-5-1-0-8-3
+        due(3, Edges.net(10, links).cut(6, 3));
+        due(3, Edges.net(10, links).cut(3, 6));
+    }
+
     /** Of twelve NODES 11 is the last: the number behind it is none. */
     static void promise25_noNodeBehindTheLastOfTwelve() {
         RerouteHouse x = Edges.full();
