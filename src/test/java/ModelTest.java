@@ -2,9 +2,9 @@ import java.util.NoSuchElementException;
 import java.util.Random;
 
 /**
- * Puts the same calls to RerouteHouse and to the Model: on networks of many
- * shapes every question with all its arguments, and runs of calls at random
- * with wrong arguments among them. The seeds are fixed.
+ * Puts the same calls to RerouteHouse and to the Model: on every small network
+ * and on greater ones of many shapes every question with all its arguments, and
+ * runs of calls at random with wrong arguments among them. The seeds are fixed.
  */
 public final class ModelTest {
     private static final int THROWN = -99;
@@ -34,6 +34,9 @@ public final class ModelTest {
     }
 
     public static void main(String[] args) {
+        for (int n = 2; n <= 4; n++) {
+            everyNetworkOf(n);
+        }
         for (int seed = 0; seed < 120; seed++) {
             new ModelTest(seed).wholeNetwork();
         }
@@ -56,6 +59,35 @@ public final class ModelTest {
                 System.out.println("ModelTest: case " + i + " was met only " + seen[i] + " times");
             }
         }
+    }
+
+    /** Each two NODES without a LINK, with one of COST 1, with one of COST 3: ties, detours and bridges all come up. */
+    private static void everyNetworkOf(int n) {
+        int networks = 1;
+        for (int pair = 0; pair < n * (n - 1) / 2; pair++) {
+            networks *= 3;
+        }
+        for (int code = 0; code < networks; code++) {
+            new ModelTest(2000000 + code).smallNetwork(n, code);
+        }
+    }
+
+    private void smallNetwork(int n, int code) {
+        ask("nodes", n, 0, 0);
+        int left = code;
+        for (int a = 0; a < n; a++) {
+            for (int b = a + 1; b < n; b++) {
+                if (left % 3 != 0) {
+                    int link = ask("link", a, b, left % 3 * 2 - 1);
+                    ask("groups", link, random.nextInt(4), 0);
+                }
+                left /= 3;
+            }
+        }
+        askAboutPairs(n);
+        askAboutLinks(n);
+        askAboutPackets(n);
+        askAboutAll();
     }
 
     private void wholeNetwork() {
@@ -223,7 +255,7 @@ public final class ModelTest {
         return kind == 0 ? ODD[random.nextInt(ODD.length)] : kind < 4 ? random.nextInt(260) : random.nextInt(kind < 20 ? 13 : 5);
     }
 
-    private void ask(String name, int x, int y, int z) {
+    private int ask(String name, int x, int y, int z) {
         int want = ofModel(name, x, y, z);
         int got = ofHouse(name, x, y, z);
         asked++;
@@ -233,6 +265,7 @@ public final class ModelTest {
                 System.out.println(name + "(" + x + ", " + y + ", " + z + ") answered " + got + ", due is " + want);
             }
         }
+        return want;
     }
 
     private int ofHouse(String name, int x, int y, int z) {
